@@ -1,0 +1,109 @@
+import java.util.List;
+import java.util.function.Function;
+
+/** Promises 13 to 16: margin, good, nim, mad, each on games small enough to work out by hand. */
+public final class ValueTest {
+    public static void main(String[] args) {
+        beforeTheGame();
+        oneString();
+        quietStrings();
+        twoCoinsOnOneString();
+        aCoinToLeave();
+        longChain();
+        loopAndChain();
+        nimByQuietCutsAlone();
+        boards();
+        valuesFollowTheCuts();
+        Check.end();
+    }
+
+    private static void values(String name, CoinStrings x, int margin, int good, int nim, int mad) {
+        Check.same("margin() of " + name, x.margin(), margin);
+        Check.same("good() of " + name, x.good(), good);
+        Check.same("nim() of " + name, x.nim(), nim);
+        Check.same("mad() of " + name, x.mad(), mad);
+    }
+
+    private static void beforeTheGame() {
+        List<Function<CoinStrings, Integer>> calls =
+                List.of(CoinStrings::margin, CoinStrings::good, CoinStrings::nim, CoinStrings::mad);
+        for (Function<CoinStrings, Integer> call : calls) {
+            Check.throwing("a value of a new object", Check.STATE, () -> call.apply(new CoinStrings()));
+            Check.throwing("a value before begin", Check.STATE, () -> call.apply(Check.strung(0, 1)));
+            CoinStrings cleared = Check.begun(Check.strung(0, 1));
+            call.apply(cleared);
+            cleared.clear();
+            Check.throwing("a value after clear", Check.STATE, () -> call.apply(cleared));
+        }
+    }
+
+    private static void oneString() {
+        CoinStrings x = Check.begun(Check.strung(6, -1));
+        values("one string", x, 1, 1, 0, 0);
+        x.cut(0);
+        values("the end", x, 0, 0, 0, 0);
+    }
+
+    private static void quietStrings() {
+        // One coin on n strings: every cut but the last is quiet.
+        values("a coin on 2", Check.begun(Check.strung(0, -1, 0, -1)), -1, 3, 1, 0);
+        values("a coin on 3", Check.begun(Check.strung(0, -1, 0, -1, 0, -1)), 1, 7, 0, 0);
+        values("a coin on 4", Check.begun(Check.board(1, 1)), -1, 15, 1, 0);
+    }
+
+    private static void twoCoinsOnOneString() {
+        values("two coins on one string", Check.begun(Check.strung(0, 1)), 2, 1, 0, 0);
+        // The second cut of either order takes; the first takes nothing and gives both away.
+        values("two coins on two strings", Check.begun(Check.strung(0, 1, 1, 0)), -2, 3, 1, 0);
+        values("two pairs", Check.begun(Check.strung(0, 1, 2, 3)), 4, 3, 0, 0);
+    }
+
+    private static void aCoinToLeave() {
+        // 0 hangs on 1 alone, 1 on the ground too. Cutting string 0 takes 0 and leaves value 0;
+        // cutting string 1 takes nothing and leaves value 0 as well, so the position is loony.
+        values("a coin that may be left", Check.begun(Check.strung(0, 1, 1, -1)), 2, 1, CoinStrings.LOONY, 0);
+    }
+
+    private static void longChain() {
+        // The three coins between two grounds: any cut gives them all away.
+        CoinStrings x = Check.begun(Check.strung(0, -1, 0, 1, 1, 2, 2, -1));
+        values("a chain of three", x, -3, 15, 0, 15);
+        x.cut(0);
+        // Taking 0 leaves a loony position again, so this one is loony; the quiet cuts leave nothing but
+        // coins to take, and the value 0 at the end.
+        values("an opened chain of three", x, 3, 2, CoinStrings.LOONY, 0);
+    }
+
+    private static void loopAndChain() {
+        CoinStrings x = Check.begun(Check.strung(0, 1, 1, 2, 2, 3, 3, 0, 4, -1, 4, 5, 5, 6, 6, -1));
+        // Who opens the loop loses 4 and gets the chain; who opens the chain gets 2 of 3 and loses the loop.
+        values("a loop of four and a chain of three", x, -1, 15, 0, 255);
+        x.cut(0);
+        values("an opened loop and a chain", x, 1, 10, CoinStrings.LOONY, 0xF0);
+    }
+
+    private static void nimByQuietCutsAlone() {
+        // Coins 0 and 1 each on two strings to the ground: values 1 and 1 make 0.
+        values("two coins on 2", Check.begun(Check.strung(0, -1, 0, -1, 1, -1, 1, -1)), 0, 15, 0, 0);
+        // Coin 0 on 2 strings, coin 1 free to take: the quiet cuts leave 0, the taking cut leaves 1.
+        values("a coin on 2 and a coin on 1", Check.begun(Check.strung(0, -1, 0, -1, 1, -1)), 0, 4, 1, 0);
+    }
+
+    private static void boards() {
+        values("board(2, 2)", Check.begun(Check.board(2, 2)), 2, 3763, 0, 0);
+        CoinStrings x = Check.begun(Check.board(1, 3));
+        Check.same("margin() of board(1, 3)", x.margin(), -1);
+        Check.same("nim() of board(1, 3)", x.nim(), 1);
+        CoinStrings y = Check.begun(Check.board(3, 1));
+        Check.same("margin() of board(3, 1)", y.margin(), -1);
+        Check.same("nim() of board(3, 1)", y.nim(), 1);
+    }
+
+    private static void valuesFollowTheCuts() {
+        CoinStrings x = Check.begun(Check.strung(0, 1, 1, -1));
+        x.cut(1);
+        values("what is left after a cut", x, 2, 1, 0, 0);
+        x.undo();
+        values("what is left after undo", x, 2, 1, CoinStrings.LOONY, 0);
+    }
+}
