@@ -334,8 +334,8 @@ public final class CoinStrings {
             if (ready) {
                 return;
             }
-            // A cut leaves a lesser number, so going upward finds what each position needs.
-            known[0] = 0;
+            // A cut leaves a lesser number, so going upward finds what each position needs;
+            // the empty one keeps the 0 that the row was made with.
             for (int position = 1; position <= web.everyString(); position++) {
                 known[position] = (byte) greatestGiven(position);
             }

@@ -32,6 +32,9 @@ public final class GroupTest {
     private static void chains() {
         Check.same("a chain of one", all(Check.strung(4, -1, 4, -1)), List.of(1));
         Check.same("a chain of two", all(Check.strung(4, -1, 4, 2, 2, -1)), List.of(2));
+        Check.same("a chain of two by string 0", all(Check.strung(0, 1, 0, -1, 1, -1)), List.of(2));
+        Check.same("a chain of one by the last of twelve",
+                all(Check.strung(0, 1, 0, 1, 0, 1, 0, 1, 0, 1, 0, 1, 0, 1, 0, 1, 0, 1, 0, 1, 2, 3, 2, -1)), List.of(1));
         Check.same("a chain to a coin on one string", all(Check.strung(0, 1, 1, -1)), List.of(1));
         Check.same("a coin tied twice to one on three", all(Check.strung(0, 1, 0, 1, 1, -1)), List.of(1));
         Check.same("a coin tied twice, the greater", all(Check.strung(0, 1, 0, 1, 0, -1)), List.of(1));

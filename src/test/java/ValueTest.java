@@ -12,6 +12,8 @@ public final class ValueTest {
         longChain();
         loopAndChain();
         nimByQuietCutsAlone();
+        nimOfMoreThanOne();
+        askedForFirst();
         boards();
         valuesFollowTheCuts();
         Check.end();
@@ -87,6 +89,23 @@ public final class ValueTest {
         values("two coins on 2", Check.begun(Check.strung(0, -1, 0, -1, 1, -1, 1, -1)), 0, 15, 0, 0);
         // Coin 0 on 2 strings, coin 1 free to take: the quiet cuts leave 0, the taking cut leaves 1.
         values("a coin on 2 and a coin on 1", Check.begun(Check.strung(0, -1, 0, -1, 1, -1)), 0, 4, 1, 0);
+    }
+
+    private static void nimOfMoreThanOne() {
+        // The ground's strings leave 0 (a loop of two, value 1, can be reached), the others a chain of two, value 1.
+        values("two coins on 3", Check.begun(Check.strung(0, -1, 1, -1, 0, 1, 0, 1)), 2, 12, 2, 0);
+        // The same in another order of the strings, and beside a coin on 2, value 1, and a coin on 1, to be taken.
+        values("two coins on 3 again", Check.begun(Check.strung(0, 1, 1, 0, 1, -1, 0, -1)), 2, 3, 2, 0);
+        Check.same("nim() beside a coin on 2",
+                Check.begun(Check.strung(0, -1, 1, -1, 0, 1, 0, 1, 2, -1, 2, -1)).nim(), 3);
+        values("beside a coin on 1", Check.begun(Check.strung(0, -1, 1, -1, 2, -1, 0, 1, 0, 1)), 3, 4, 2, 0);
+    }
+
+    private static void askedForFirst() {
+        Check.same("mad() asked for first", Check.begun(Check.strung(0, -1, 0, 1, 1, 2, 2, -1)).mad(), 15);
+        Check.same("good() asked for first", Check.begun(Check.strung(0, -1, 0, 1, 1, -1)).good(), 7);
+        Check.same("nim() asked for first", Check.begun(Check.strung(0, 1, 1, -1)).nim(), CoinStrings.LOONY);
+        Check.same("margin() asked for first", Check.begun(Check.strung(0, 1, 1, -1)).margin(), 2);
     }
 
     private static void boards() {
