@@ -101,7 +101,7 @@ public final class CoinStrings {
         int mover = onTurn;
         int cuts = 0;
         while (cuts < MOST_STRINGS && position != 0 && onTurn == mover) {
-            sever(least(margins.goodStrings(position)));
+            sever(least(margins.markedStrings(position)));
             cuts++;
         }
         return cuts;
@@ -136,7 +136,7 @@ public final class CoinStrings {
 
     public int good() throws IllegalStateException {
         requireBegun();
-        return margins.goodStrings(position);
+        return margins.markedStrings(position);
     }
 
     public int nim() throws IllegalStateException {
@@ -146,7 +146,7 @@ public final class CoinStrings {
 
     public int mad() throws IllegalStateException {
         requireBegun();
-        return nimValues.madStrings(position);
+        return nimValues.markedStrings(position);
     }
 
     public int groups() {
@@ -215,7 +215,7 @@ public final class CoinStrings {
         return set & ~(1 << i);
     }
 
-    /** The least member of a set; no set that is asked about is without one. */
+    /** The least member of a set, or MOST_STRINGS if none is less. */
     private static int least(int set) {
         int i = 0;
         while (i < MOST_STRINGS && !has(set, i)) {
@@ -300,89 +300,31 @@ public final class CoinStrings {
         }
     }
 
-    /** The margins of all positions of a game, worked out when one of them is first asked for. */
-    private static final class Margins {
-        private final Web web;
-        private final byte[] known = new byte[POSITIONS];
+    /** A value for each position of a game, all worked out when one of them is first asked for. */
+    private abstract static class Values {
+        final Web web;
+        final byte[] known = new byte[POSITIONS];
         private boolean ready;
 
-        Margins(Web web) {
+        Values(Web web) {
             this.web = web;
         }
 
-        void forget() {
+        final void forget() {
             ready = false;
         }
 
-        int of(int position) {
+        final int of(int position) {
             prepare();
             return known[position];
         }
 
-        int goodStrings(int position) {
+        /** The strings of a position whose cuts the value marks out. */
+        final int markedStrings(int position) {
             prepare();
             int found = 0;
             for (int i = 0; i < web.size(); i++) {
-                if (has(position, i) && given(position, i) == known[position]) {
-                    found |= 1 << i;
-                }
-            }
-            return found;
-        }
-
-        private void prepare() {
-            if (ready) {
-                return;
-            }
-            // A cut leaves a lesser number, so going upward finds what each position needs;
-            // the empty one keeps the 0 that the row was made with.
-            for (int position = 1; position <= web.everyString(); position++) {
-                known[position] = (byte) greatestGiven(position);
-            }
-            ready = true;
-        }
-
-        private int greatestGiven(int position) {
-            int greatest = Integer.MIN_VALUE;
-            for (int i = 0; i < web.size(); i++) {
-                if (has(position, i)) {
-                    greatest = Math.max(greatest, given(position, i));
-                }
-            }
-            return greatest;
-        }
-
-        private int given(int position, int i) {
-            int coins = web.freed(position, i);
-            int rest = known[without(position, i)];
-            return coins > 0 ? coins + rest : -rest;
-        }
-    }
-
-    /** The nim values of all positions of a game, worked out when one of them is first asked for. */
-    private static final class NimValues {
-        private final Web web;
-        private final byte[] known = new byte[POSITIONS];
-        private boolean ready;
-
-        NimValues(Web web) {
-            this.web = web;
-        }
-
-        void forget() {
-            ready = false;
-        }
-
-        int of(int position) {
-            prepare();
-            return known[position];
-        }
-
-        int madStrings(int position) {
-            prepare();
-            int found = 0;
-            for (int i = 0; i < web.size(); i++) {
-                if (has(position, i) && web.freed(position, i) == 0 && known[without(position, i)] == LOONY) {
+                if (has(position, i) && isMarked(position, i)) {
                     found |= 1 << i;
                 }
             }
@@ -395,12 +337,54 @@ public final class CoinStrings {
             }
             // A cut leaves a lesser number, so going upward finds what each position needs.
             for (int position = 0; position <= web.everyString(); position++) {
-                known[position] = (byte) valueOf(position);
+                known[position] = (byte) workOut(position);
             }
             ready = true;
         }
 
-        private int valueOf(int position) {
+        abstract int workOut(int position);
+
+        abstract boolean isMarked(int position, int i);
+    }
+
+    /** Marks out the good cuts. */
+    private static final class Margins extends Values {
+        Margins(Web web) {
+            super(web);
+        }
+
+        int workOut(int position) {
+            if (position == 0) {
+                return 0;
+            }
+            // No cut gives less than the loss of every coin.
+            int greatest = -COINS;
+            for (int i = 0; i < web.size(); i++) {
+                if (has(position, i)) {
+                    greatest = Math.max(greatest, given(position, i));
+                }
+            }
+            return greatest;
+        }
+
+        boolean isMarked(int position, int i) {
+            return given(position, i) == known[position];
+        }
+
+        private int given(int position, int i) {
+            int coins = web.freed(position, i);
+            int rest = known[without(position, i)];
+            return coins > 0 ? coins + rest : -rest;
+        }
+    }
+
+    /** Marks out the cuts that take nothing and leave a loony position. */
+    private static final class NimValues extends Values {
+        NimValues(Web web) {
+            super(web);
+        }
+
+        int workOut(int position) {
             int quiet = 0;
             int taking = 0;
             boolean loonyTaking = false;
@@ -411,7 +395,7 @@ public final class CoinStrings {
                 int value = known[without(position, i)];
                 boolean takes = web.freed(position, i) > 0;
                 if (value == LOONY) {
-                    loonyTaking |= takes;
+                    loonyTaking = loonyTaking || takes;
                 } else if (takes) {
                     taking |= 1 << value;
                 } else {
@@ -425,6 +409,10 @@ public final class CoinStrings {
                 return least(~quiet);
             }
             return Integer.bitCount(taking) > 1 || (taking & quiet) != 0 ? LOONY : least(taking);
+        }
+
+        boolean isMarked(int position, int i) {
+            return web.freed(position, i) == 0 && known[without(position, i)] == LOONY;
         }
     }
 
