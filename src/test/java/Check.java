@@ -1,4 +1,5 @@
 import java.util.ArrayList;
+import java.util.Arrays;
 import java.util.List;
 import java.util.function.IntSupplier;
 
@@ -9,7 +10,12 @@ final class Check {
     static final Class<? extends RuntimeException> INDEX = IndexOutOfBoundsException.class;
     static final Class<? extends RuntimeException> ELEMENT = java.util.NoSuchElementException.class;
 
+    /** Arguments that lie outside everything, and such as a shift or a sum would bring back inside. */
+    static final int[] FAR = {31, 32, 33, -32, 64, 256, Integer.MAX_VALUE, Integer.MAX_VALUE - 1,
+        Integer.MIN_VALUE, Integer.MIN_VALUE + 1};
+
     private static int wrong = 0;
+    private static String sentence = "";
 
     private Check() {
     }
@@ -17,8 +23,18 @@ final class Check {
     static void same(String what, Object got, Object due) {
         if (!due.equals(got)) {
             wrong++;
-            System.out.println(what + " answered " + got + ", due is " + due);
+            System.out.println(sentence + what + " answered " + got + ", due is " + due);
         }
+    }
+
+    /** The test of one sentence of the document, whose words are told with all that is wrong in it. */
+    static void edge(String words, Runnable test) {
+        sentence = "'" + words + "': ";
+        same("the test", outcome(() -> {
+            test.run();
+            return 0;
+        }), 0);
+        sentence = "";
     }
 
     static void throwing(String what, Class<? extends RuntimeException> due, Runnable call) {
@@ -56,6 +72,30 @@ final class Check {
             all.add(x.group(g));
         }
         all.add(lastText(x));
+        return all;
+    }
+
+    /** All that can be seen of an object, now and after each undo until none is left. */
+    static List<Object> past(CoinStrings x) {
+        List<Object> all = new ArrayList<>();
+        all.add(seen(x));
+        while (outcome(x::undo) instanceof Integer string) {
+            all.add(string);
+            all.add(seen(x));
+        }
+        return all;
+    }
+
+    /** Left, turn and takings in one answer. */
+    static void state(CoinStrings x, int left, int turn, int taken0, int taken1) {
+        String got = x.left() + " " + x.turn() + " " + x.taken(0) + " " + x.taken(1);
+        same("left, turn, taken", got, left + " " + turn + " " + taken0 + " " + taken1);
+    }
+
+    /** The given arguments and the far ones. */
+    static int[] andFar(int... arguments) {
+        int[] all = Arrays.copyOf(arguments, arguments.length + FAR.length);
+        System.arraycopy(FAR, 0, all, arguments.length, FAR.length);
         return all;
     }
 
