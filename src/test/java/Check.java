@@ -67,10 +67,7 @@ final class Check {
         all.add(outcome(x::good));
         all.add(outcome(x::nim));
         all.add(outcome(x::mad));
-        all.add(x.groups());
-        for (int g = 0; g < x.groups(); g++) {
-            all.add(x.group(g));
-        }
+        all.add(groups(x));
         all.add(lastText(x));
         return all;
     }
@@ -97,6 +94,15 @@ final class Check {
         int[] all = Arrays.copyOf(arguments, arguments.length + FAR.length);
         System.arraycopy(FAR, 0, all, arguments.length, FAR.length);
         return all;
+    }
+
+    /** All that group() answers. */
+    static List<Integer> groups(CoinStrings x) {
+        List<Integer> answers = new ArrayList<>();
+        for (int g = 0; g < x.groups(); g++) {
+            answers.add(x.group(g));
+        }
+        return answers;
     }
 
     /** The text that at() answers, without making it anew. */

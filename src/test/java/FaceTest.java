@@ -35,7 +35,9 @@ public final class FaceTest {
         Check.same("how many constructors", face.getDeclaredConstructors().length, 1);
         Check.same("the constructor", Modifier.toString(face.getDeclaredConstructors()[0].getModifiers()), "public");
         methods(face);
+        privateMethods(face);
         fields(face);
+        classesInside(face);
         Check.same("LOONY", CoinStrings.LOONY, -1);
         Check.same("LOOP", CoinStrings.LOOP, 100);
         Check.end();
@@ -51,6 +53,28 @@ public final class FaceTest {
             }
         }
         Check.same("the methods", found, new TreeSet<>(METHODS));
+    }
+
+    private static void privateMethods(Class<?> face) {
+        TreeSet<String> names = new TreeSet<>();
+        for (Method method : face.getMethods()) {
+            names.add(method.getName());
+        }
+        for (Method method : face.getDeclaredMethods()) {
+            if (Modifier.isPrivate(method.getModifiers())) {
+                Check.same("whether a public method has the name " + method.getName(),
+                        names.contains(method.getName()), false);
+            }
+        }
+    }
+
+    private static void classesInside(Class<?> face) {
+        for (Class<?> inside : face.getDeclaredClasses()) {
+            int modifiers = inside.getModifiers();
+            boolean open = Modifier.isPublic(modifiers) || Modifier.isProtected(modifiers);
+            Check.same("whether others see " + inside.getSimpleName(), open, false);
+            Check.same("whether it is static: " + inside.getSimpleName(), Modifier.isStatic(modifiers), true);
+        }
     }
 
     private static void fields(Class<?> face) {

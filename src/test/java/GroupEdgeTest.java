@@ -1,4 +1,3 @@
-import java.util.ArrayList;
 import java.util.List;
 
 /** Promises 17 and 18 at their edges, with the terms of groups: each sentence that names one has a test of its own. */
@@ -22,17 +21,8 @@ public final class GroupEdgeTest {
         Check.end();
     }
 
-    /** All that group() answers. */
-    private static List<Integer> all(CoinStrings x) {
-        List<Integer> answers = new ArrayList<>();
-        for (int g = 0; g < x.groups(); g++) {
-            answers.add(x.group(g));
-        }
-        return answers;
-    }
-
     private static void due(CoinStrings x, Integer... groups) {
-        Check.same("the groups", all(x), List.of(groups));
+        Check.same("the groups", Check.groups(x), List.of(groups));
     }
 
     private static void noGroups() {

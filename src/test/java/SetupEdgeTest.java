@@ -76,7 +76,7 @@ public final class SetupEdgeTest {
         other.cut(0);
         other.show();
         Check.same("seen of a new object", Check.seen(new CoinStrings()).toString(),
-                "[0, 0, 0, 0, 0, 0, 0, 0, 0, 0, 0, 0" + ", java.lang.IllegalStateException".repeat(4) + ", 0, ]");
+                "[0, 0, 0, 0, 0, 0, 0, 0, 0, 0, 0, 0" + ", java.lang.IllegalStateException".repeat(4) + ", [], ]");
         Check.begun(Check.strung(4, -1)).margin();
         Check.same("margin() of the other one", other.margin(), 1);
         Check.same("text of the other one", Check.lastText(other), "1:1=;");

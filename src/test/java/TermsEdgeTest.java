@@ -1,11 +1,18 @@
+import java.lang.reflect.Method;
 import java.util.ArrayList;
 import java.util.List;
 import java.util.function.Consumer;
 import java.util.function.Supplier;
 
-/** 'What it is' and 'Terms' at their edges, as far as no promise has them: each sentence has a test of its own. */
+/** 'What it is' and 'Terms' at their edges: each sentence that names one has a test of its own. */
 public final class TermsEdgeTest {
     private record Call(String name, Consumer<CoinStrings> body) {
+        Object outcome(CoinStrings x) {
+            return Check.outcome(() -> {
+                body.accept(x);
+                return 0;
+            });
+        }
     }
 
     private record State(String name, Supplier<CoinStrings> make) {
@@ -54,6 +61,8 @@ public final class TermsEdgeTest {
         Check.edge("Of several exceptions the one named first is thrown -- by board", TermsEdgeTest::firstNamedOfBoard);
         Check.edge("Of several exceptions the one named first is thrown -- by cut", TermsEdgeTest::firstNamedOfCut);
         Check.edge("a call that throws changes nothing", TermsEdgeTest::refusedCallsChangeNothing);
+        Check.edge("LANGUAGE.md 6: exactly what and where the document says, and nothing else ever reaches its caller",
+                TermsEdgeTest::onlyNamedExceptions);
     }
 
     private static void manyCuts() {
@@ -320,17 +329,37 @@ public final class TermsEdgeTest {
             List<Object> due = Check.past(state.make().get());
             for (Call call : calls()) {
                 CoinStrings x = state.make().get();
-                Object answer = Check.outcome(() -> {
-                    call.body().accept(x);
-                    return 0;
-                });
-                if (!answer.equals(0)) {
+                if (!call.outcome(x).equals(0)) {
                     refusals++;
                     Check.same(state.name() + " after " + call.name(), Check.past(x), due);
                 }
             }
         }
         Check.same("whether calls were refused", refusals > 1000, true);
+    }
+
+    private static void onlyNamedExceptions() {
+        for (State state : states()) {
+            for (Call call : calls()) {
+                List<Object> due = named(call.name().substring(0, call.name().indexOf('(')));
+                Object answer = call.outcome(state.make().get());
+                Check.same(state.name() + ": whether " + call.name() + " names " + answer, due.contains(answer), true);
+            }
+        }
+    }
+
+    /** An answer, or one of the exceptions that the face names for a method. */
+    private static List<Object> named(String name) {
+        List<Object> outcomes = new ArrayList<>();
+        outcomes.add(0);
+        for (Method method : CoinStrings.class.getMethods()) {
+            if (method.getName().equals(name)) {
+                for (Class<?> exception : method.getExceptionTypes()) {
+                    outcomes.add(exception.getName());
+                }
+            }
+        }
+        return outcomes;
     }
 
     private static List<State> states() {
@@ -379,6 +408,11 @@ public final class TermsEdgeTest {
             calls.add(new Call("at(" + i + ")", x -> x.at(i)));
         }
         calls.add(new Call("begin()", CoinStrings::begin));
+        calls.add(new Call("clear()", CoinStrings::clear));
+        calls.add(new Call("turn()", CoinStrings::turn));
+        calls.add(new Call("left()", CoinStrings::left));
+        calls.add(new Call("groups()", CoinStrings::groups));
+        calls.add(new Call("show()", CoinStrings::show));
         calls.add(new Call("undo()", CoinStrings::undo));
         calls.add(new Call("play()", CoinStrings::play));
         calls.add(new Call("margin()", CoinStrings::margin));

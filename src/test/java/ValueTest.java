@@ -1,10 +1,6 @@
-import java.util.List;
-import java.util.function.Function;
-
 /** Promises 13 to 16: margin, good, nim, mad, each on games small enough to work out by hand. */
 public final class ValueTest {
     public static void main(String[] args) {
-        beforeTheGame();
         oneString();
         quietStrings();
         twoCoinsOnOneString();
@@ -24,19 +20,6 @@ public final class ValueTest {
         Check.same("good() of " + name, x.good(), good);
         Check.same("nim() of " + name, x.nim(), nim);
         Check.same("mad() of " + name, x.mad(), mad);
-    }
-
-    private static void beforeTheGame() {
-        List<Function<CoinStrings, Integer>> calls =
-                List.of(CoinStrings::margin, CoinStrings::good, CoinStrings::nim, CoinStrings::mad);
-        for (Function<CoinStrings, Integer> call : calls) {
-            Check.throwing("a value of a new object", Check.STATE, () -> call.apply(new CoinStrings()));
-            Check.throwing("a value before begin", Check.STATE, () -> call.apply(Check.strung(0, 1)));
-            CoinStrings cleared = Check.begun(Check.strung(0, 1));
-            call.apply(cleared);
-            cleared.clear();
-            Check.throwing("a value after clear", Check.STATE, () -> call.apply(cleared));
-        }
     }
 
     private static void oneString() {
