@@ -27,8 +27,8 @@ final class Check {
         }
     }
 
-    /** The test of one sentence of the document, whose words are told with all that is wrong in it. */
-    static void edge(String words, Runnable test) {
+    /** The test of what the document says in these words, which are told with all that is wrong in it. */
+    static void says(String words, Runnable test) {
         sentence = "'" + words + "': ";
         same("the test", outcome(() -> {
             test.run();

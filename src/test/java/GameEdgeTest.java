@@ -11,42 +11,42 @@ public final class GameEdgeTest {
     }
 
     private static void cutting() {
-        Check.edge("6: how many coins are taken by that", GameEdgeTest::cutTakesNoneOneOrTwo);
-        Check.edge("6: IllegalStateException when the game has not begun", GameEdgeTest::cutBeforeTheGame);
-        Check.edge("6: IndexOutOfBoundsException when there is no such string", GameEdgeTest::cutOfNoString);
-        Check.edge("6: NoSuchElementException when it is not left", GameEdgeTest::cutOfAStringNotLeft);
-        Check.edge("6: Cuts string i -- the first and the last of 12", GameEdgeTest::cutOfTheFirstAndTheLast);
+        Check.says("6: how many coins are taken by that", GameEdgeTest::cutTakesNoneOneOrTwo);
+        Check.says("6: IllegalStateException when the game has not begun", GameEdgeTest::cutBeforeTheGame);
+        Check.says("6: IndexOutOfBoundsException when there is no such string", GameEdgeTest::cutOfNoString);
+        Check.says("6: NoSuchElementException when it is not left", GameEdgeTest::cutOfAStringNotLeft);
+        Check.says("6: Cuts string i -- the first and the last of 12", GameEdgeTest::cutOfTheFirstAndTheLast);
     }
 
     private static void undoing() {
-        Check.edge("7: Takes back the latest cut: its string. -- of 12 cuts", GameEdgeTest::undoTwelve);
-        Check.edge("7: Takes back the latest cut -- with what it took", GameEdgeTest::undoGivesBack);
-        Check.edge("7: Takes back the latest cut -- at the end", GameEdgeTest::undoAtTheEnd);
-        Check.edge("7: Takes back the latest cut -- of several by play", GameEdgeTest::undoOfPlay);
-        Check.edge("7: NoSuchElementException when there was none", GameEdgeTest::undoOfNone);
-        Check.edge("7: (or all were taken back)", GameEdgeTest::undoOfAllTakenBack);
+        Check.says("7: Takes back the latest cut: its string. -- of 12 cuts", GameEdgeTest::undoTwelve);
+        Check.says("7: Takes back the latest cut -- with what it took", GameEdgeTest::undoGivesBack);
+        Check.says("7: Takes back the latest cut -- at the end", GameEdgeTest::undoAtTheEnd);
+        Check.says("7: Takes back the latest cut -- of several by play", GameEdgeTest::undoOfPlay);
+        Check.says("7: NoSuchElementException when there was none", GameEdgeTest::undoOfNone);
+        Check.says("7: (or all were taken back)", GameEdgeTest::undoOfAllTakenBack);
     }
 
     private static void playing() {
-        Check.edge("8: the good string with the least number", GameEdgeTest::playTheLeastGood);
-        Check.edge("8: and again, until the other one has the turn", GameEdgeTest::playUntilTheOtherHasTheTurn);
-        Check.edge("8: or the end is there", GameEdgeTest::playToTheEnd);
-        Check.edge("8: how many were cut -- none, at the end", GameEdgeTest::playAtTheEnd);
-        Check.edge("8: how many were cut -- the most that can be", GameEdgeTest::playTheMost);
-        Check.edge("8: Who has the turn cuts -- player 1", GameEdgeTest::playOfTheSecondPlayer);
-        Check.edge("8: IllegalStateException when the game has not begun", GameEdgeTest::playBeforeTheGame);
+        Check.says("8: the good string with the least number", GameEdgeTest::playTheLeastGood);
+        Check.says("8: and again, until the other one has the turn", GameEdgeTest::playUntilTheOtherHasTheTurn);
+        Check.says("8: or the end is there", GameEdgeTest::playToTheEnd);
+        Check.says("8: how many were cut -- none, at the end", GameEdgeTest::playAtTheEnd);
+        Check.says("8: how many were cut -- the most that can be", GameEdgeTest::playTheMost);
+        Check.says("8: Who has the turn cuts -- player 1", GameEdgeTest::playOfTheSecondPlayer);
+        Check.says("8: IllegalStateException when the game has not begun", GameEdgeTest::playBeforeTheGame);
     }
 
     private static void asking() {
-        Check.edge("9: at the end the one who cut last", GameEdgeTest::turnAtTheEnd);
-        Check.edge("9: 0 before the game has begun", GameEdgeTest::turnBeforeTheGame);
-        Check.edge("10: How many coins a player has taken. -- none, and all", GameEdgeTest::takenNoneAndAll);
-        Check.edge("10: IndexOutOfBoundsException when player is not 0 or 1", GameEdgeTest::takenOfNoPlayer);
-        Check.edge("11: (all, before the game has begun)", GameEdgeTest::leftBeforeTheGame);
-        Check.edge("11: string i as the bit 2^i", GameEdgeTest::leftOfTwelve);
-        Check.edge("12: How many strings that are left belong to a coin. -- none, and all",
+        Check.says("9: at the end the one who cut last", GameEdgeTest::turnAtTheEnd);
+        Check.says("9: 0 before the game has begun", GameEdgeTest::turnBeforeTheGame);
+        Check.says("10: How many coins a player has taken. -- none, and all", GameEdgeTest::takenNoneAndAll);
+        Check.says("10: IndexOutOfBoundsException when player is not 0 or 1", GameEdgeTest::takenOfNoPlayer);
+        Check.says("11: (all, before the game has begun)", GameEdgeTest::leftBeforeTheGame);
+        Check.says("11: string i as the bit 2^i", GameEdgeTest::leftOfTwelve);
+        Check.says("12: How many strings that are left belong to a coin. -- none, and all",
                 GameEdgeTest::stringsNoneAndAll);
-        Check.edge("12: IndexOutOfBoundsException when there is no such coin", GameEdgeTest::stringsOfNoCoin);
+        Check.says("12: IndexOutOfBoundsException when there is no such coin", GameEdgeTest::stringsOfNoCoin);
     }
 
     /** Coins 0 and 1 on one string; coin 2 on two strings to the ground. */

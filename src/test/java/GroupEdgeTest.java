@@ -3,20 +3,20 @@ import java.util.List;
 /** Promises 17 and 18 at their edges, with the terms of groups: each sentence that names one has a test of its own. */
 public final class GroupEdgeTest {
     public static void main(String[] args) {
-        Check.edge("17: How many groups there are. -- none", GroupEdgeTest::noGroups);
-        Check.edge("17: How many groups there are. -- the most that can be", GroupEdgeTest::sixGroups);
-        Check.edge("the coins to which exactly two strings belong", GroupEdgeTest::exactlyTwoStrings);
-        Check.edge("in one group if a string that is left joins them", GroupEdgeTest::joinedByAString);
-        Check.edge("a string that is left -- not one that was cut", GroupEdgeTest::joinedByACutString);
-        Check.edge("or both are in one group with a third one", GroupEdgeTest::joinedByAThirdCoin);
-        Check.edge("a LOOP if all strings that belong to its coins join two of its coins", GroupEdgeTest::loops);
-        Check.edge("otherwise a CHAIN", GroupEdgeTest::chains);
-        Check.edge("otherwise a CHAIN -- with both ends at one coin", GroupEdgeTest::chainsThatLookLikeLoops);
-        Check.edge("Groups are numbered 0, 1, .. by their least coins.", GroupEdgeTest::orderOfGroups);
-        Check.edge("18: The length of group g -- 1 and 8", GroupEdgeTest::leastAndGreatestLengths);
-        Check.edge("18: and LOOP more if it is a loop -- of 2 and 8", GroupEdgeTest::leastAndGreatestLoops);
-        Check.edge("18: IndexOutOfBoundsException when there is no such group", GroupEdgeTest::noSuchGroup);
-        Check.edge("18: IndexOutOfBoundsException when there is no such group -- any more",
+        Check.says("17: How many groups there are. -- none", GroupEdgeTest::noGroups);
+        Check.says("17: How many groups there are. -- the most that can be", GroupEdgeTest::sixGroups);
+        Check.says("the coins to which exactly two strings belong", GroupEdgeTest::exactlyTwoStrings);
+        Check.says("in one group if a string that is left joins them", GroupEdgeTest::joinedByAString);
+        Check.says("a string that is left -- not one that was cut", GroupEdgeTest::joinedByACutString);
+        Check.says("or both are in one group with a third one", GroupEdgeTest::joinedByAThirdCoin);
+        Check.says("a LOOP if all strings that belong to its coins join two of its coins", GroupEdgeTest::loops);
+        Check.says("otherwise a CHAIN", GroupEdgeTest::chains);
+        Check.says("otherwise a CHAIN -- with both ends at one coin", GroupEdgeTest::chainsThatLookLikeLoops);
+        Check.says("Groups are numbered 0, 1, .. by their least coins.", GroupEdgeTest::orderOfGroups);
+        Check.says("18: The length of group g -- 1 and 8", GroupEdgeTest::leastAndGreatestLengths);
+        Check.says("18: and LOOP more if it is a loop -- of 2 and 8", GroupEdgeTest::leastAndGreatestLoops);
+        Check.says("18: IndexOutOfBoundsException when there is no such group", GroupEdgeTest::noSuchGroup);
+        Check.says("18: IndexOutOfBoundsException when there is no such group -- any more",
                 GroupEdgeTest::groupThatWas);
         Check.end();
     }

@@ -1,13 +1,18 @@
 import java.util.List;
 
-/** Promises 17 and 18 on ordinary games: groups, group. */
+/** Promises 17 and 18 on ordinary games, with the terms of groups: groups, group. */
 public final class GroupTest {
     public static void main(String[] args) {
-        loops();
-        chains();
-        coinsThatAreInNoGroup();
-        unitedLate();
-        groupsFollowTheCuts();
+        Check.says("A group is a LOOP if all strings that belong to its coins join two of its coins", GroupTest::loops);
+        Check.says("otherwise a CHAIN", GroupTest::chains);
+        Check.says("GROUPS of a position: the coins to which exactly two strings belong",
+                GroupTest::coinsThatAreInNoGroup);
+        Check.says("two of them are in one group if a string that is left joins them, or both are in one group with a"
+                + " third one", GroupTest::unitedLate);
+        Check.says("17: How many groups there are.", GroupTest::howManyGroups);
+        Check.says("18: The length of group g (how many coins it has), and LOOP more if it is a loop.",
+                GroupTest::groupsFollowTheCuts);
+        Check.says("`LOOP = 100`: What group() answers for a loop besides its length.", GroupTest::theConstant);
         Check.end();
     }
 
@@ -60,5 +65,21 @@ public final class GroupTest {
         Check.same("a loop by undo", Check.groups(x), List.of(103));
         x.clear();
         Check.same("no group after clear", x.groups(), 0);
+    }
+
+    private static void howManyGroups() {
+        CoinStrings x = Check.begun(Check.strung(0, -1, 0, -1, 4, 5, 5, 4, 7, -1));
+        Check.same("groups()", x.groups(), 2);
+        x.cut(0);
+        Check.same("groups() after a cut", x.groups(), 1);
+        x.undo();
+        Check.same("groups() after undo()", x.groups(), 2);
+    }
+
+    private static void theConstant() {
+        CoinStrings x = Check.strung(0, 1, 1, 2, 2, 0);
+        Check.same("group(0) of a loop of three", x.group(0), CoinStrings.LOOP + 3);
+        Check.same("group(0) of a loop of three, in figures", x.group(0), 103);
+        Check.same("group(0) of a chain of three", Check.strung(0, -1, 0, 1, 1, 2, 2, -1).group(0), 3);
     }
 }

@@ -9,12 +9,12 @@ public final class ReferenceTest {
     private final CoinStrings x = new CoinStrings();
     private final Reference due = new Reference();
     private final int run;
+    private final Numbers numbers;
     private int calls = 0;
-    private long seed;
 
     private ReferenceTest(int run) {
         this.run = run;
-        this.seed = run;
+        this.numbers = new Numbers(run);
     }
 
     public static void main(String[] args) {
@@ -28,7 +28,7 @@ public final class ReferenceTest {
         while (calls < CALLS) {
             setUp();
             begin();
-            int moves = number(0, 30);
+            int moves = numbers.next(0, 30);
             for (int move = 0; move < moves; move++) {
                 move();
                 ask();
@@ -39,43 +39,33 @@ public final class ReferenceTest {
         }
     }
 
-    /** The same numbers in every run of the test, so that what it finds can be found again. */
-    private int number(int from, int to) {
-        seed = seed * 6364136223846793005L + 1442695040888963407L;
-        return from + (int) ((seed >>> 33) % (to - from + 1));
-    }
-
-    private boolean oneOf(int many) {
-        return number(1, many) == 1;
-    }
-
     private int wild() {
-        return WILD[number(0, WILD.length - 1)];
+        return WILD[numbers.next(0, WILD.length - 1)];
     }
 
     private void setUp() {
-        if (oneOf(8)) {
-            board(number(1, 3), number(1, 3));
+        if (numbers.oneOf(8)) {
+            board(numbers.next(1, 3), numbers.next(1, 3));
         }
         // Few coins make loops and double strings, many make chains and trees.
-        int coins = number(2, 8);
-        int grounds = number(1, 4);
-        int strings = number(0, 13);
+        int coins = numbers.next(2, 8);
+        int grounds = numbers.next(1, 4);
+        int strings = numbers.next(0, 13);
         for (int i = 0; i < strings; i++) {
-            add(number(0, coins - 1), oneOf(grounds) ? -1 : number(0, coins - 1));
-            if (oneOf(5)) {
+            add(numbers.next(0, coins - 1), numbers.oneOf(grounds) ? -1 : numbers.next(0, coins - 1));
+            if (numbers.oneOf(5)) {
                 ask();
             }
-            if (oneOf(8)) {
+            if (numbers.oneOf(8)) {
                 move();
             }
         }
     }
 
     private void move() {
-        int what = number(0, 99);
+        int what = numbers.next(0, 99);
         if (what < 55) {
-            cut(number(0, 11));
+            cut(numbers.next(0, 11));
         } else if (what < 75) {
             same("undo()", x::undo, due::undo);
         } else if (what < 85) {
@@ -83,11 +73,11 @@ public final class ReferenceTest {
         } else if (what < 90) {
             cut(wild());
         } else if (what < 93) {
-            add(number(-1, 8), number(-2, 8));
+            add(numbers.next(-1, 8), numbers.next(-2, 8));
         } else if (what < 95) {
             add(wild(), wild());
         } else if (what < 97) {
-            board(number(0, 4), number(0, 4));
+            board(numbers.next(0, 4), numbers.next(0, 4));
         } else if (what < 98) {
             board(wild(), wild());
         } else {
@@ -96,8 +86,8 @@ public final class ReferenceTest {
     }
 
     private void ask() {
-        int i = oneOf(8) ? wild() : number(0, 7);
-        switch (number(0, 6)) {
+        int i = numbers.oneOf(8) ? wild() : numbers.next(0, 7);
+        switch (numbers.next(0, 6)) {
             case 0 -> same("turn()", x::turn, due::turn);
             case 1 -> same("left()", x::left, due::left);
             case 2 -> same("taken(" + i % 3 + ")", () -> x.taken(i % 3), () -> due.taken(i % 3));
@@ -109,15 +99,15 @@ public final class ReferenceTest {
     }
 
     private void askForText() {
-        if (oneOf(2)) {
+        if (numbers.oneOf(2)) {
             same("show()", x::show, due::show);
         }
-        int i = oneOf(8) ? wild() : number(0, oneOf(2) ? 75 : 12);
+        int i = numbers.oneOf(8) ? wild() : numbers.next(0, numbers.oneOf(2) ? 75 : 12);
         same("at(" + i + ")", () -> x.at(i), () -> due.at(i));
     }
 
     private void askForValues() {
-        switch (number(0, 3)) {
+        switch (numbers.next(0, 3)) {
             case 0 -> same("margin()", x::margin, due::margin);
             case 1 -> same("good()", x::good, due::good);
             case 2 -> same("nim()", x::nim, due::nim);

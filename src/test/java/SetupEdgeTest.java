@@ -3,8 +3,8 @@ import java.util.List;
 /** Promises 1 to 5 at their edges: each sentence that names one has a test of its own. */
 public final class SetupEdgeTest {
     public static void main(String[] args) {
-        Check.edge("1: No strings.", SetupEdgeTest::newObject);
-        Check.edge("1: No strings. -- beside another object", SetupEdgeTest::newObjectBesideAnother);
+        Check.says("1: No strings.", SetupEdgeTest::newObject);
+        Check.says("1: No strings. -- beside another object", SetupEdgeTest::newObjectBesideAnother);
         adding();
         boards();
         beginning();
@@ -13,45 +13,45 @@ public final class SetupEdgeTest {
     }
 
     private static void adding() {
-        Check.edge("2: Adds a string between coins a and b [..] its number.", SetupEdgeTest::leastAndGreatestCoins);
-        Check.edge("2: or a and the ground (b = -1)", SetupEdgeTest::everyCoinToTheGround);
-        Check.edge("2: IllegalArgumentException when a is not 0 .. 7", SetupEdgeTest::aIsNoCoin);
-        Check.edge("2: IllegalArgumentException when [..] b not -1 .. 7", SetupEdgeTest::bIsNoEnd);
-        Check.edge("2: IllegalArgumentException when [..] or they are the same", SetupEdgeTest::sameCoinTwice);
-        Check.edge("2: IllegalStateException when the game has begun", SetupEdgeTest::addToABegunGame);
-        Check.edge("2: IllegalStateException when [..] or there are 12", SetupEdgeTest::addToTwelve);
+        Check.says("2: Adds a string between coins a and b [..] its number.", SetupEdgeTest::leastAndGreatestCoins);
+        Check.says("2: or a and the ground (b = -1)", SetupEdgeTest::everyCoinToTheGround);
+        Check.says("2: IllegalArgumentException when a is not 0 .. 7", SetupEdgeTest::aIsNoCoin);
+        Check.says("2: IllegalArgumentException when [..] b not -1 .. 7", SetupEdgeTest::bIsNoEnd);
+        Check.says("2: IllegalArgumentException when [..] or they are the same", SetupEdgeTest::sameCoinTwice);
+        Check.says("2: IllegalStateException when the game has begun", SetupEdgeTest::addToABegunGame);
+        Check.says("2: IllegalStateException when [..] or there are 12", SetupEdgeTest::addToTwelve);
     }
 
     private static void boards() {
-        Check.edge("3: a string to the ground for the upper side, if it is the first row", SetupEdgeTest::upperSides);
-        Check.edge("3: for the left side, if the first column", SetupEdgeTest::leftSides);
-        Check.edge("3: to the right side's box, or the ground", SetupEdgeTest::rightSides);
-        Check.edge("3: to the lower side's box, or the ground", SetupEdgeTest::lowerSides);
-        Check.edge("3: How many strings there are.", SetupEdgeTest::leastAndGreatestBoards);
-        Check.edge("3: IllegalArgumentException when rows [..] is less than 1", SetupEdgeTest::tooFewRows);
-        Check.edge("3: IllegalArgumentException when [..] columns is less than 1", SetupEdgeTest::tooFewColumns);
-        Check.edge("3: or there would be more than 12 strings", SetupEdgeTest::boardsTooLarge);
-        Check.edge("3: or there would be more than 12 strings -- where an int wraps around",
+        Check.says("3: a string to the ground for the upper side, if it is the first row", SetupEdgeTest::upperSides);
+        Check.says("3: for the left side, if the first column", SetupEdgeTest::leftSides);
+        Check.says("3: to the right side's box, or the ground", SetupEdgeTest::rightSides);
+        Check.says("3: to the lower side's box, or the ground", SetupEdgeTest::lowerSides);
+        Check.says("3: How many strings there are.", SetupEdgeTest::leastAndGreatestBoards);
+        Check.says("3: IllegalArgumentException when rows [..] is less than 1", SetupEdgeTest::tooFewRows);
+        Check.says("3: IllegalArgumentException when [..] columns is less than 1", SetupEdgeTest::tooFewColumns);
+        Check.says("3: or there would be more than 12 strings", SetupEdgeTest::boardsTooLarge);
+        Check.says("3: or there would be more than 12 strings -- where an int wraps around",
                 SetupEdgeTest::boardsThatWrapAround);
-        Check.edge("3: IllegalStateException when the game has begun", SetupEdgeTest::boardInABegunGame);
-        Check.edge("3: IllegalStateException when [..] or there is a string", SetupEdgeTest::boardBesideAString);
+        Check.says("3: IllegalStateException when the game has begun", SetupEdgeTest::boardInABegunGame);
+        Check.says("3: IllegalStateException when [..] or there is a string", SetupEdgeTest::boardBesideAString);
     }
 
     private static void beginning() {
-        Check.edge("4: Begins the game.", SetupEdgeTest::beginWithOneAndWithTwelve);
-        Check.edge("4: IllegalStateException when it has begun", SetupEdgeTest::beginTwice);
-        Check.edge("4: IllegalStateException when [..] or there are no strings", SetupEdgeTest::beginWithNone);
+        Check.says("4: Begins the game.", SetupEdgeTest::beginWithOneAndWithTwelve);
+        Check.says("4: IllegalStateException when it has begun", SetupEdgeTest::beginTwice);
+        Check.says("4: IllegalStateException when [..] or there are no strings", SetupEdgeTest::beginWithNone);
     }
 
     private static void clearing() {
-        Check.edge("5: No strings", SetupEdgeTest::clearDropsTheStrings);
-        Check.edge("5: not begun", SetupEdgeTest::clearEndsTheGame);
-        Check.edge("5: not begun -- so player 0 has the turn", SetupEdgeTest::clearGivesBackTheTurn);
-        Check.edge("5: not begun -- so there is no cut to take back", SetupEdgeTest::clearForgetsTheCuts);
-        Check.edge("5: takings are 0", SetupEdgeTest::clearDropsTheTakings);
-        Check.edge("5: No strings, not begun; takings are 0. -- when it is so before", SetupEdgeTest::clearOfNothing);
-        Check.edge("5: No strings, not begun; takings are 0. -- and nothing else", SetupEdgeTest::clearKeepsTheText);
-        Check.edge("5: No strings -- and no values of the game before", SetupEdgeTest::clearForgetsTheValues);
+        Check.says("5: No strings", SetupEdgeTest::clearDropsTheStrings);
+        Check.says("5: not begun", SetupEdgeTest::clearEndsTheGame);
+        Check.says("5: not begun -- so player 0 has the turn", SetupEdgeTest::clearGivesBackTheTurn);
+        Check.says("5: not begun -- so there is no cut to take back", SetupEdgeTest::clearForgetsTheCuts);
+        Check.says("5: takings are 0", SetupEdgeTest::clearDropsTheTakings);
+        Check.says("5: No strings, not begun; takings are 0. -- when it is so before", SetupEdgeTest::clearOfNothing);
+        Check.says("5: No strings, not begun; takings are 0. -- and nothing else", SetupEdgeTest::clearKeepsTheText);
+        Check.says("5: No strings -- and no values of the game before", SetupEdgeTest::clearForgetsTheValues);
     }
 
     private static void newObject() {

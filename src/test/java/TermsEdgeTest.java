@@ -27,41 +27,44 @@ public final class TermsEdgeTest {
     }
 
     private static void manyCalls() {
-        Check.edge("at most 512 calls -- cuts and undos", TermsEdgeTest::manyCuts);
-        Check.edge("at most 512 calls -- games", TermsEdgeTest::manyGames);
-        Check.edge("at most 512 calls -- refused ones", TermsEdgeTest::manyRefusals);
-        Check.edge("at most 512 calls -- texts", TermsEdgeTest::manyTexts);
+        Check.says("An object is used for at most 512 calls after it has been made -- cuts and undos",
+                TermsEdgeTest::manyCuts);
+        Check.says("at most 512 calls -- games", TermsEdgeTest::manyGames);
+        Check.says("at most 512 calls -- refused ones", TermsEdgeTest::manyRefusals);
+        Check.says("at most 512 calls -- texts", TermsEdgeTest::manyTexts);
     }
 
     private static void coinsAndStrings() {
-        Check.edge("There are the COINS 0 .. 7", TermsEdgeTest::eightCoins);
-        Check.edge("and up to 12 STRINGS, numbered 0, 1, ..", TermsEdgeTest::twelveStrings);
-        Check.edge("a string joins two different coins", TermsEdgeTest::differentCoins);
-        Check.edge("or a coin and the GROUND", TermsEdgeTest::groundIsNoCoin);
-        Check.edge("(Several may join the same two.)", TermsEdgeTest::severalStrings);
-        Check.edge("(Several may join the same two.) -- a coin and the ground", TermsEdgeTest::severalToTheGround);
-        Check.edge("A coin that some string joins to something is IN THE GAME.", TermsEdgeTest::coinsNotInTheGame);
+        Check.says("There are the COINS 0 .. 7", TermsEdgeTest::eightCoins);
+        Check.says("and up to 12 STRINGS, numbered 0, 1, ..", TermsEdgeTest::twelveStrings);
+        Check.says("a string joins two different coins", TermsEdgeTest::differentCoins);
+        Check.says("or a coin and the GROUND", TermsEdgeTest::groundIsNoCoin);
+        Check.says("(Several may join the same two.)", TermsEdgeTest::severalStrings);
+        Check.says("(Several may join the same two.) -- a coin and the ground", TermsEdgeTest::severalToTheGround);
+        Check.says("A coin that some string joins to something is IN THE GAME.", TermsEdgeTest::coinsNotInTheGame);
     }
 
     private static void cutsAndTakings() {
-        Check.edge("At first strings are ADDED; then the game is BEGUN", TermsEdgeTest::firstAddedThenBegun);
-        Check.edge("and they are CUT, each once at most", TermsEdgeTest::cutOnce);
-        Check.edge("a string that was not cut [..] belongs to the coins that it joins", TermsEdgeTest::belongsToBoth);
-        Check.edge("to which no string that is left belongs is TAKEN", TermsEdgeTest::takenByTheLastString);
-        Check.edge("player 0 has the first TURN", TermsEdgeTest::firstTurn);
-        Check.edge("the coins, at most two, that are taken by that are that player's", TermsEdgeTest::twoAtOnce);
-        Check.edge("If there are none, the other player has the turn.", TermsEdgeTest::turnGoesOver);
-        Check.edge("THE END is when no string is left.", TermsEdgeTest::theEnd);
-        Check.edge("LOONY = -1", () -> Check.same("LOONY", CoinStrings.LOONY, -1));
-        Check.edge("LOOP = 100", () -> Check.same("LOOP", CoinStrings.LOOP, 100));
+        Check.says("At first strings are ADDED; then the game is BEGUN", TermsEdgeTest::firstAddedThenBegun);
+        Check.says("and they are CUT, each once at most", TermsEdgeTest::cutOnce);
+        Check.says("a string that was not cut is LEFT, and belongs to the coins that it joins",
+                TermsEdgeTest::belongsToBoth);
+        Check.says("A coin in the game to which no string that is left belongs is TAKEN.",
+                TermsEdgeTest::takenByTheLastString);
+        Check.says("player 0 has the first TURN", TermsEdgeTest::firstTurn);
+        Check.says("the coins, at most two, that are taken by that are that player's", TermsEdgeTest::twoAtOnce);
+        Check.says("If there are none, the other player has the turn.", TermsEdgeTest::turnGoesOver);
+        Check.says("THE END is when no string is left.", TermsEdgeTest::theEnd);
+        Check.says("LOONY = -1", () -> Check.same("LOONY", CoinStrings.LOONY, -1));
+        Check.says("LOOP = 100", () -> Check.same("LOOP", CoinStrings.LOOP, 100));
     }
 
     private static void exceptions() {
-        Check.edge("Of several exceptions the one named first is thrown -- by add", TermsEdgeTest::firstNamedOfAdd);
-        Check.edge("Of several exceptions the one named first is thrown -- by board", TermsEdgeTest::firstNamedOfBoard);
-        Check.edge("Of several exceptions the one named first is thrown -- by cut", TermsEdgeTest::firstNamedOfCut);
-        Check.edge("a call that throws changes nothing", TermsEdgeTest::refusedCallsChangeNothing);
-        Check.edge("LANGUAGE.md 6: exactly what and where the document says, and nothing else ever reaches its caller",
+        Check.says("Of several exceptions the one named first is thrown -- by add", TermsEdgeTest::firstNamedOfAdd);
+        Check.says("Of several exceptions the one named first is thrown -- by board", TermsEdgeTest::firstNamedOfBoard);
+        Check.says("Of several exceptions the one named first is thrown -- by cut", TermsEdgeTest::firstNamedOfCut);
+        Check.says("a call that throws changes nothing", TermsEdgeTest::refusedCallsChangeNothing);
+        Check.says("LANGUAGE.md 6: exactly what and where the document says, and nothing else ever reaches its caller",
                 TermsEdgeTest::onlyNamedExceptions);
     }
 

@@ -7,25 +7,25 @@ public final class TextEdgeTest {
     }
 
     private static void making() {
-        Check.edge("for each string that is left, in order", TextEdgeTest::stringsInOrder);
-        Check.edge("its number (in decimal)", TextEdgeTest::numbersOfTwoDigits);
-        Check.edge("the lesser of its coins, - and the other coin", TextEdgeTest::lesserCoinFirst);
-        Check.edge("or just = if it joins the coin to the ground", TextEdgeTest::theGround);
-        Check.edge("(3:1-4;10:0=;)", TextEdgeTest::theExample);
-        Check.edge("19: how long it is -- the empty text", TextEdgeTest::emptyText);
-        Check.edge("19: how long it is -- the least and the longest text", TextEdgeTest::leastAndLongestText);
-        Check.edge("19: Makes the text of the position -- before the game has begun", TextEdgeTest::textBeforeTheGame);
+        Check.says("for each string that is left, in order", TextEdgeTest::stringsInOrder);
+        Check.says("its number (in decimal)", TextEdgeTest::numbersOfTwoDigits);
+        Check.says("the lesser of its coins, - and the other coin", TextEdgeTest::lesserCoinFirst);
+        Check.says("or just = if it joins the coin to the ground", TextEdgeTest::theGround);
+        Check.says("(3:1-4;10:0=;)", TextEdgeTest::theExample);
+        Check.says("19: how long it is -- the empty text", TextEdgeTest::emptyText);
+        Check.says("19: how long it is -- the least and the longest text", TextEdgeTest::leastAndLongestText);
+        Check.says("19: Makes the text of the position -- before the game has begun", TextEdgeTest::textBeforeTheGame);
     }
 
     private static void reading() {
-        Check.edge("20: Character i -- the first and the last", TextEdgeTest::firstAndLastCharacter);
-        Check.edge("20: of the text that was made last -- before another is made", TextEdgeTest::textStays);
-        Check.edge("20: of the text that was made last -- after clear", TextEdgeTest::textStaysAfterClear);
-        Check.edge("20: of the text that was made last -- a shorter one", TextEdgeTest::shorterText);
-        Check.edge("20: IndexOutOfBoundsException when there is none -- before any text", TextEdgeTest::noText);
-        Check.edge("20: IndexOutOfBoundsException when there is none -- of the empty text",
+        Check.says("20: Character i -- the first and the last", TextEdgeTest::firstAndLastCharacter);
+        Check.says("20: of the text that was made last -- before another is made", TextEdgeTest::textStays);
+        Check.says("20: of the text that was made last -- after clear", TextEdgeTest::textStaysAfterClear);
+        Check.says("20: of the text that was made last -- a shorter one", TextEdgeTest::shorterText);
+        Check.says("20: IndexOutOfBoundsException when there is none -- before any text", TextEdgeTest::noText);
+        Check.says("20: IndexOutOfBoundsException when there is none -- of the empty text",
                 TextEdgeTest::noCharacterOfTheEmpty);
-        Check.edge("20: IndexOutOfBoundsException when there is none", TextEdgeTest::noSuchCharacter);
+        Check.says("20: IndexOutOfBoundsException when there is none", TextEdgeTest::noSuchCharacter);
     }
 
     private static void stringsInOrder() {

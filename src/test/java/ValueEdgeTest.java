@@ -13,41 +13,41 @@ public final class ValueEdgeTest {
     }
 
     private static void margins() {
-        Check.edge("Its MARGIN is 0 when it is empty", ValueEdgeTest::emptyMargin);
-        Check.edge("otherwise the greatest number that a cut of one of its strings gives", ValueEdgeTest::oneCutAlone);
-        Check.edge("the greatest number that a cut [..] gives -- 8 and -8", ValueEdgeTest::leastAndGreatestMargins);
-        Check.edge("t + m if t is more than 0", ValueEdgeTest::takingOneOrTwo);
-        Check.edge("-m if t is 0", ValueEdgeTest::takingNothing);
-        Check.edge("the greatest number -- by a cut that leaves coins", ValueEdgeTest::leavingCoins);
-        Check.edge("A cut is GOOD if it gives the margin.", ValueEdgeTest::someCutsAreGood);
-        Check.edge("14: The strings whose cuts are good -- all", ValueEdgeTest::allCutsAreGood);
-        Check.edge("14: The strings whose cuts are good -- none, at the end", ValueEdgeTest::noCutIsGood);
-        Check.edge("14: string i as the bit 2^i -- the last of 12", ValueEdgeTest::lastOfTwelveIsGood);
+        Check.says("Its MARGIN is 0 when it is empty", ValueEdgeTest::emptyMargin);
+        Check.says("otherwise the greatest number that a cut of one of its strings gives", ValueEdgeTest::oneCutAlone);
+        Check.says("the greatest number that a cut [..] gives -- 8 and -8", ValueEdgeTest::leastAndGreatestMargins);
+        Check.says("t + m if t is more than 0", ValueEdgeTest::takingOneOrTwo);
+        Check.says("-m if t is 0", ValueEdgeTest::takingNothing);
+        Check.says("the greatest number -- by a cut that leaves coins", ValueEdgeTest::leavingCoins);
+        Check.says("A cut is GOOD if it gives the margin.", ValueEdgeTest::someCutsAreGood);
+        Check.says("14: The strings whose cuts are good -- all", ValueEdgeTest::allCutsAreGood);
+        Check.says("14: The strings whose cuts are good -- none, at the end", ValueEdgeTest::noCutIsGood);
+        Check.says("14: string i as the bit 2^i -- the last of 12", ValueEdgeTest::lastOfTwelveIsGood);
     }
 
     private static void nimValues() {
-        Check.edge("a number from 0 on -- of the empty position", ValueEdgeTest::emptyNim);
-        Check.edge("If there are no cuts that take something, it is the least number from 0 on that is not in A",
+        Check.says("a number from 0 on -- of the empty position", ValueEdgeTest::emptyNim);
+        Check.says("If there are no cuts that take something, it is the least number from 0 on that is not in A",
                 ValueEdgeTest::leastNumber);
-        Check.edge("a number from 0 on -- large ones", ValueEdgeTest::largeNumbers);
-        Check.edge("(LOONY does not count)", ValueEdgeTest::loonyDoesNotCount);
-        Check.edge("if LOONY is in B [..] it is LOONY", ValueEdgeTest::loonyAfterTaking);
-        Check.edge("if LOONY is in B [..] it is LOONY -- beside a number", ValueEdgeTest::loonyAndANumberAfterTaking);
-        Check.edge("or B has two different numbers -- which never comes", ValueEdgeTest::sameNumberAfterTaking);
-        Check.edge("or the only number in B is in A too, it is LOONY", ValueEdgeTest::numberInBoth);
-        Check.edge("if not, it is that number", ValueEdgeTest::numberInOne);
-        Check.edge("16: take nothing and leave a position that is LOONY -- all", ValueEdgeTest::allCutsAreMad);
-        Check.edge("16: take nothing and leave a position that is LOONY -- some", ValueEdgeTest::someCutsAreMad);
-        Check.edge("16: The strings whose cuts take nothing", ValueEdgeTest::takingIsNotMad);
-        Check.edge("16: The strings -- none, at the end", ValueEdgeTest::noCutIsMad);
+        Check.says("a number from 0 on -- large ones", ValueEdgeTest::largeNumbers);
+        Check.says("(LOONY does not count)", ValueEdgeTest::loonyDoesNotCount);
+        Check.says("if LOONY is in B [..] it is LOONY", ValueEdgeTest::loonyAfterTaking);
+        Check.says("if LOONY is in B [..] it is LOONY -- beside a number", ValueEdgeTest::loonyAndANumberAfterTaking);
+        Check.says("or B has two different numbers -- which never comes", ValueEdgeTest::sameNumberAfterTaking);
+        Check.says("or the only number in B is in A too, it is LOONY", ValueEdgeTest::numberInBoth);
+        Check.says("if not, it is that number", ValueEdgeTest::numberInOne);
+        Check.says("16: take nothing and leave a position that is LOONY -- all", ValueEdgeTest::allCutsAreMad);
+        Check.says("16: take nothing and leave a position that is LOONY -- some", ValueEdgeTest::someCutsAreMad);
+        Check.says("16: The strings whose cuts take nothing", ValueEdgeTest::takingIsNotMad);
+        Check.says("16: The strings -- none, at the end", ValueEdgeTest::noCutIsMad);
     }
 
     private static void beforeTheGame() {
-        Check.edge("13: IllegalStateException when the game has not begun", () -> refuse("margin()",
+        Check.says("13: IllegalStateException when the game has not begun", () -> refuse("margin()",
                 CoinStrings::margin));
-        Check.edge("14: IllegalStateException when the game has not begun", () -> refuse("good()", CoinStrings::good));
-        Check.edge("15: IllegalStateException when the game has not begun", () -> refuse("nim()", CoinStrings::nim));
-        Check.edge("16: IllegalStateException when the game has not begun", () -> refuse("mad()", CoinStrings::mad));
+        Check.says("14: IllegalStateException when the game has not begun", () -> refuse("good()", CoinStrings::good));
+        Check.says("15: IllegalStateException when the game has not begun", () -> refuse("nim()", CoinStrings::nim));
+        Check.says("16: IllegalStateException when the game has not begun", () -> refuse("mad()", CoinStrings::mad));
     }
 
     private static void refuse(String name, ToIntFunction<CoinStrings> call) {

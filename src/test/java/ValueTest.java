@@ -1,6 +1,16 @@
 /** Promises 13 to 16: margin, good, nim, mad, each on games small enough to work out by hand. */
 public final class ValueTest {
     public static void main(String[] args) {
+        Check.says("13: The margin. -- and what 14 to 16 say of the same games", ValueTest::gamesByHand);
+        Check.says("14: The strings whose cuts are good, string i as the bit 2^i.", ValueTest::goodCuts);
+        Check.says("15: The nim value, or LOONY.", ValueTest::numbersAndLoony);
+        Check.says("16: The strings whose cuts take nothing and leave a position that is LOONY.", ValueTest::madCuts);
+        Check.says("The NIM VALUE of a position is a number from 0 on, or LOONY.", ValueTest::numbersFromZero);
+        Check.says("`LOONY = -1`: What nim() answers for LOONY.", ValueTest::theConstant);
+        Check.end();
+    }
+
+    private static void gamesByHand() {
         oneString();
         quietStrings();
         twoCoinsOnOneString();
@@ -12,7 +22,6 @@ public final class ValueTest {
         askedForFirst();
         boards();
         valuesFollowTheCuts();
-        Check.end();
     }
 
     private static void values(String name, CoinStrings x, int margin, int good, int nim, int mad) {
@@ -107,5 +116,54 @@ public final class ValueTest {
         values("what is left after a cut", x, 2, 1, 0, 0);
         x.undo();
         values("what is left after undo", x, 2, 1, CoinStrings.LOONY, 0);
+    }
+
+    private static void goodCuts() {
+        // Coins 0 and 1 can be taken, with strings 1 and 3; coin 5 is then the other player's.
+        CoinStrings x = Check.begun(Check.strung(5, -1, 0, -1, 5, -1, 1, -1));
+        Check.same("margin()", x.margin(), 1);
+        Check.same("good()", x.good(), 10);
+        x.cut(3);
+        Check.same("good() after one", x.good(), 2);
+        x.cut(1);
+        Check.same("good() after both", x.good(), 5);
+    }
+
+    private static void numbersAndLoony() {
+        CoinStrings x = Check.begun(Check.strung(0, 1, 1, -1, 2, -1, 2, -1));
+        Check.same("nim() of a chain to take and a coin on 2", x.nim(), CoinStrings.LOONY);
+        x.cut(0);
+        Check.same("nim() of a coin on 1 and a coin on 2", x.nim(), 1);
+        x.cut(1);
+        Check.same("nim() of a coin on 2", x.nim(), 1);
+        x.cut(2);
+        Check.same("nim() of a coin on 1", x.nim(), 0);
+    }
+
+    private static void madCuts() {
+        // To open the chain of three is mad; of the loop of two both coins must be taken, as nothing is left of it.
+        CoinStrings x = Check.begun(Check.strung(3, 4, 0, -1, 0, 1, 1, 2, 2, -1, 4, 3));
+        Check.same("mad()", x.mad(), 30);
+        x.cut(0);
+        Check.same("mad() after the loop is opened", x.mad(), 30);
+        x.cut(1);
+        Check.same("mad() after both are opened", x.mad(), 0);
+    }
+
+    private static void numbersFromZero() {
+        for (int coins = 1; coins <= 6; coins++) {
+            CoinStrings x = new CoinStrings();
+            for (int i = 0; i < 2 * coins; i++) {
+                x.add(i / 2, -1);
+            }
+            x.begin();
+            Check.same("nim() of " + coins + " coins on 2", x.nim(), coins % 2);
+        }
+    }
+
+    private static void theConstant() {
+        CoinStrings x = Check.begun(Check.strung(0, 1, 1, -1));
+        Check.same("nim()", x.nim(), CoinStrings.LOONY);
+        Check.same("nim(), in figures", x.nim(), -1);
     }
 }
